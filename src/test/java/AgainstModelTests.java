@@ -22,7 +22,7 @@ public final class AgainstModelTests {
         "ways 3 L", "weight 2", "reach 3 w", "pattern 3 l", "kernel 3 k", "basis 2", "spare 3 d", "nearest 4 L",
         "street 4 L", "lights 5 b", "bill 6 Dd", "war 3 ppmb", "rest 3 ppmb", "verdict 5 pb", "belief 5 b",
         "lit 3 mlb", "dark 3 mb", "mean 3 mb", "game 3 b", "whodid 4 mb", "stretches 3", "stretch 4 b", "said 6 dpf",
-        "whose 6", "blaze 3 b", "surest 2", "poorest 3", "solvent 4", "fool 3", "ledger 3 p", "image 2", "back 2",
+        "whose 6", "blaze 3 b", "surest 2", "poorest 3", "solvent 4", "fool 3", "ledger 3 p", "image 1", "back 2",
         "about 6 w"};
 
     static int wrong = 0;
@@ -62,8 +62,9 @@ public final class AgainstModelTests {
         LitByLosers x = new LitByLosers();
         Model y = new Model();
         StringBuilder told = new StringBuilder();
-        int men = r.nextInt(5);
-        int quarrels = r.nextInt(9);
+        int men = r.nextInt(8) == 0 ? r.nextInt(2) : 2 + r.nextInt(3);
+        int quarrels = r.nextInt(8) == 0 ? r.nextInt(2) : 1 + r.nextInt(8);
+        boolean imageEarly = r.nextInt(4) > 0;
         for (int call = 0; call < CALLS; call++) {
             String name;
             Object[] given;
@@ -73,6 +74,9 @@ public final class AgainstModelTests {
             } else if (call < men + quarrels) {
                 name = "dispute";
                 given = new Object[] {r.nextInt(3) == 0 ? 1 << r.nextInt(10) : r.nextInt(r.nextBoolean() ? 16 : 1024)};
+            } else if (call == men + quarrels && imageEarly) {
+                name = "image";
+                given = new Object[0];
             } else if (seed % 8 == 7 && call < men + quarrels + 170) {
                 name = "night";
                 given = new Object[] {60};
@@ -139,8 +143,8 @@ public final class AgainstModelTests {
             case 'e': return r.nextInt(302);
             case 'w': return r.nextInt(10) - 1;
             case 't': return r.nextInt(6) - 1;
-            case 'd': return r.nextInt(9) - 1;
-            case 'p': return r.nextInt(20) == 0 ? -1 : r.nextInt(5);
+            case 'd': return r.nextInt(8) == 0 ? r.nextInt(10) - 1 : r.nextInt(Math.max(1, y.about(1)));
+            case 'p': return r.nextInt(8) == 0 ? r.nextInt(6) - 1 : r.nextInt(Math.max(1, y.about(0)));
             case 'q': return r.nextInt(201) - 100;
             case 'l': return r.nextInt(12) - 1;
             case 'n': return r.nextBoolean() ? 1 + r.nextInt(4) : r.nextInt(62);
