@@ -1564,24 +1564,22 @@ public final class LitByLosers {
         }
 
         private static int ofTwo(int sign, int left, int right) {
+            long value;
             switch (sign) {
-                case PLUS: return limited((long) left + right);
-                case MINUS: return limited((long) left - right);
-                case TIMES: return limited((long) left * right);
-                case OVER: return right == 0 ? 0 : left / right;
-                case AROUND: return apart(left, right);
-                case BELOW: return left < right ? 1 : 0;
-                case AT_MOST: return left <= right ? 1 : 0;
-                case ABOVE: return left > right ? 1 : 0;
-                case AT_LEAST: return left >= right ? 1 : 0;
-                case EQUAL: return left == right ? 1 : 0;
-                case UNLIKE: return left != right ? 1 : 0;
-                case AND: return left & right;
-                default: return left | right;
+                case PLUS: value = (long) left + right; break;
+                case MINUS: value = (long) left - right; break;
+                case TIMES: value = (long) left * right; break;
+                case OVER: value = right == 0 ? 0 : left / right; break;
+                case AROUND: value = apart(left, right); break;
+                case BELOW: value = left < right ? 1 : 0; break;
+                case AT_MOST: value = left <= right ? 1 : 0; break;
+                case ABOVE: value = left > right ? 1 : 0; break;
+                case AT_LEAST: value = left >= right ? 1 : 0; break;
+                case EQUAL: value = left == right ? 1 : 0; break;
+                case UNLIKE: value = left != right ? 1 : 0; break;
+                case AND: value = left & right; break;
+                default: value = left | right; break;
             }
-        }
-
-        private static int limited(long value) {
             if (value > MOST_VALUE) {
                 return MOST_VALUE;
             }
@@ -1907,6 +1905,7 @@ public final class LitByLosers {
         /** The least for a set, if the person that was priced loses some of it and those ahead the others. */
         private int leastWith(int set) {
             int best = NO_WAY;
+            // all that lie within the set, each lower than the one before, down to none
             for (int lost = set; lost >= 0; lost = lost == 0 ? NONE : lost - 1 & set) {
                 if (costs[lost] < NO_WAY && least[set ^ lost] < NO_WAY) {
                     best = Math.min(best, costs[lost] + least[set ^ lost]);

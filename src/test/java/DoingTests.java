@@ -246,6 +246,10 @@ public final class DoingTests {
         due("13 laws alone", x.played(1), -1);
         due("13 text", Due.text(x, ""), 2);
         due("13 nothing", x.played(2), -1);
+        LitByLosers z = Due.ruled("turns 3 by 2;turns 9 by 0;turns 8 by 2;turns 1 by 9;");
+        z.played(0);
+        int[] lamps = {56, 512, 769, 1023};
+        for (int i = 0; i < 4; i++) due("13 turns", z.lamps(i), lamps[i]);
         LitByLosers y = Due.ruled("fills 4;person 9 slip 0;person 9 slip 0;turns 0 by 9;");
         due("13 all", y.played(0), -1);
         due("13 all lamps", y.lamps(0), 1023);
@@ -294,6 +298,10 @@ public final class DoingTests {
         due("14 oil", x.of(1, 0), 99);
         due("14 too much", x.years(1, 1), 1);
         due("14 oil", x.of(1, 0), 99);
+        x.pour(1, -2);
+        due("14 poured 1 and 65 mod 5", x.years(13, 1), 1);
+        due("14 oil", x.of(1, 0), 98);
+        x.pour(1, 1);
         due("14 no disputes", x.years(3, 1), 1);
         due("14 X", x.is(1), 14549);
         for (int lamps : new int[] {1, 2, 7, 8}) x.dispute(lamps);
@@ -308,12 +316,12 @@ public final class DoingTests {
         due("14 X", x.is(1), 21258);
         due("14 lamps", x.is(2), 5);
         due("14 the other one", x.of(0, 2), 0);
-        due("15 a step", x.undo(), 6);
+        due("15 a step", x.undo(), 9);
         due("15 lamps", x.is(2), 7);
         due("15 X", x.is(1), 25214);
         int night = x.is(0);
         due("14 most", x.years(9999, 40) > night ? 1 : 0, 1);
-        due("15 one step", x.undo(), 6);
+        due("15 one step", x.undo(), 9);
         due("15 night", x.is(0), night);
     }
 

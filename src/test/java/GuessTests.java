@@ -47,6 +47,7 @@ public final class GuessTests {
         x.argue(0, 0, 1);
         game(x, 1, 0);
         due("43 changes nothing", x.is(2), 31);
+        game(about(1, 1, 0, 0, 0), 1, 2);
         LitByLosers y = about(1);
         y.person(9, 0);
         y.person(9, 0);
@@ -170,6 +171,12 @@ public final class GuessTests {
         due("49 of like ones the lowest", x.blaze(true), 2);
         x.argue(2, 0, 1);
         due("49 of like ones the lowest", x.blaze(false), 0);
+        LitByLosers y = about(1, 3, 4);
+        y.person(9, 0);
+        y.person(9, 0);
+        y.argue(1, 0, 1);
+        due("49 what is lit is turned dark", y.blaze(false), 1);
+        due("49 what is dark is lit", y.blaze(true), 2);
     }
 
     static void people() {
@@ -216,6 +223,9 @@ public final class GuessTests {
         due("52 by the text", x.solvent(), 1 | 4);
         x.pour(2, -4);
         due("52 as now", x.solvent(), 1);
+        LitByLosers y = about(7, 1);
+        y.person(2, 0);
+        due("52 no less than the first", y.solvent(), 0);
     }
 
     static void fool() {

@@ -57,7 +57,8 @@ public final class ImageTests {
         x.by(1);
         x.person(1, 1);
         x.dispute(1023);
-        x.argue(2, 2, 1);
+        for (int i = 0; i < 9; i++) x.argue(2, 2, 1);
+        due("a change", x.of(2, 2) > 0 ? 1 : 0, 1);
         x.years(77, 20);
         x.night(9);
         x.street(64);
@@ -77,6 +78,7 @@ public final class ImageTests {
         like("56 all is so again", asked(x), row);
         due("13 the text is as it was", x.played(0), -1);
         due("2 the next number", x.person(3, 3), 2);
+        due("2 not wrong yet", x.of(2, 2), 0);
         due("3 the next number", x.dispute(9), 2);
         due("6 the next number", Due.text(x, "fills 5;"), 1);
         x.by(1);

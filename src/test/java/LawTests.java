@@ -150,6 +150,12 @@ public final class LawTests {
         ask("1=2 or 1=2 or 1=1", true);
         ask("not 1=2 and 1=1", true);
         ask("not 1=2 and 1=2", false);
+        for (String left : new String[] {"1<2", "2<=2", "2>1", "2>=2", "2=2", "1#2", "not 2=1"}) {
+            for (String right : new String[] {"1<2", "2<=2", "2>1", "2>=2", "2=2", "1#2", "not 2=1"}) {
+                ask(left + " and " + right, true);
+                ask("not not " + left + " or " + right, true);
+            }
+        }
         ask("1+1=2*1", true);
         fills("1+if 1=1 then 2 else 5 end*3", 7);
         fills("1+if 1=2 then 2 else if 1=1 then 4 else 6 end end", 5);
@@ -164,6 +170,13 @@ public final class LawTests {
         for (int i = 0; i < 8; i++) s.append(" then1else0end");
         LitByLosers x = two(s + ";");
         due("deepest", x.loses(0, 0, 1), 1);
+        for (int i = 0; i < 20; i++) due("deepest with a fault", Due.text(x, s + "!"), -1);
+        due("deepest once more", Due.text(x, s + ";"), 1);
+        x.by(1);
+        due("deepest once more", x.loses(0, 0, 1), 1);
+        due("long", Due.text(x, "loses 75" + "-1".repeat(70) + "*1".repeat(70) + ";"), 2);
+        x.by(2);
+        due("long", x.loses(0, 0, 1), 5);
     }
 
     static void lamps() {

@@ -88,6 +88,14 @@ public final class PatternTests {
         due("26 weight", x.weight(), 2);
         due("23 rank", x.rank(), 1);
         due("18 changes nothing", x.is(2), 32);
+        LitByLosers y = about(7);
+        y.person(9, 0);
+        y.person(9, 0);
+        y.argue(0, 0, 1);
+        due("27 the fewest", y.reach(1), 0);
+        due("27 the most is as now", y.reach(2), 3);
+        due("32 of like ones the lowest", about(3, 6).nearest(7), 3);
+        due("32 of like ones the lowest", about(6, 3).nearest(7), 3);
     }
 
     static void ofLikeOnes() {

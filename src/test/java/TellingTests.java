@@ -153,7 +153,9 @@ public final class TellingTests {
     }
 
     static void faultsStand() {
-        String[][] parts = {{"", "!"}, {"", "1;"}, {"", ";"}, {"", "Loses 1;"}, {"", "losesx 1;"}, {"", "slip 1;"},
+        String[][] parts = {{"", "!"}, {"", "1;"}, {"", ";"}, {"", "Loses 1;"}, {"", "losesx 1;"}, {"", "losesA 1;"}, {"", "losesZ 1;"}, {"", "zloses 1;"}, {"loses", "[1;"}, {"loses", "@1;"},
+            {"loses", "`1;"}, {"loses", "{1;"}, {"loses 1", ":"}, {"loses 1*", ";"}, {"loses 1/", ");"},
+            {"loses if 1=1 or ", "then 1 else 1 end;"}, {"loses if 1=1 and 1", "or 1=1 then 1 else 1 end;"}, {"", "slip 1;"},
             {"", "then"}, {"", "\tnight 1;"}, {"", "\u00e9"}, {"", "\0"}, {"loses", ""}, {"loses ", ""}, {"loses 1", ""},
             {"loses 1  \n", ""}, {"loses 1 ", "2;"}, {"loses ", ";"}, {"loses 1;", ";"}, {"loses (1", ";"},
             {"loses 1", ");"}, {"loses 1", "\t;"}, {"loses 1 ", "=1;"}, {"loses ", "not 1=1;"}, {"loses 1+", ";"},
@@ -168,6 +170,9 @@ public final class TellingTests {
             {"argue 1 by 1", ";"}, {"argue 1 by 1 ", "by 2;"}, {"pour 1 ", "to 1;"}, {"pour ", "who by 1;"},
             {"snuff ", "lamp 1;"}, {"night ", "(1);"}, {"night 1 ", "2;"}, {"night 1;night", ""}, {"night 1;", "oil"}};
         for (String[] p : parts) at(1, p[0], p[1]);
+        at(1, "", ";".repeat(300));
+        at(1, "loses 1", ")".repeat(293));
+        at(1, "loses 1" + "+1".repeat(146) + "+", "");
         whole("loses1;fills2;");
         whole("loses- - 1+-2*-(3);");
         whole("night\n1\n;");
