@@ -378,6 +378,18 @@ public final class GuessEdgeTests {
             due("nothing said", x.whose(), 15);
             for (int i = 0; i < 7; i++) x.said(0, 1, 9);
             due("seven alike", x.whose(), 15);
+            LitByLosers y = town(1, 1, 1, 1, 1, 1, 1, 1);
+            for (int i = 0; i < 4; i++) y.person(9, 0);
+            Due.text(y, "fills number;");
+            Due.text(y, "fills who*2;");
+            Due.text(y, "fills number+who-5;");
+            for (int d = 0; d < 8; d++) {
+                for (int p = 0; p < 4; p++) {
+                    y.said(-1, 0, 0);
+                    y.said(d, p, 4);
+                    due("four of " + d + ", " + p, y.whose(), (d == 4 ? 1 : 0) + (p == 2 ? 2 : 0) + (d + p == 9 ? 4 : 0));
+                }
+            }
             x.said(1, 1, 0);
             due("all eight", x.whose(), 3);
         });

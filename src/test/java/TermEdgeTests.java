@@ -363,7 +363,7 @@ public final class TermEdgeTests {
 
     static void steps() {
         Due.edge("the latest 30 can be taken back, the latest first", () -> {
-            for (int done : new int[] {0, 1, 29, 30, 31, 65}) {
+            for (int done : new int[] {0, 1, 29, 30, 31, 65, 95}) {
                 LitByLosers x = new LitByLosers();
                 x.person(0, 0);
                 for (int i = 0; i < done; i++) x.pour(0, 1);
@@ -377,6 +377,18 @@ public final class TermEdgeTests {
                 due("oil", x.of(0, 0), done - can);
                 Due.due("a step again", x.pour(0, 1), true);
                 due("one", x.undo(), 0);
+            }
+        });
+        Due.edge("the latest 30 behind many", () -> {
+            for (int done = 100; done <= 400; done += 20) {
+                LitByLosers x = new LitByLosers();
+                x.person(0, 0);
+                for (int i = 1; i <= done; i++) x.pour(0, i % 70 == 0 ? -69 : 1);
+                for (int i = 29; i >= 0; i--) {
+                    due("undo", x.undo(), i);
+                    due("oil", x.of(0, 0), (done - 30 + i) % 70);
+                }
+                due("none", x.undo(), -1);
             }
         });
         Due.edge("ARGUED, POURED, SNUFFED, a NIGHT (each), YEARS", () -> {
@@ -587,6 +599,25 @@ public final class TermEdgeTests {
                 break;
             }
         });
+        Due.edge("ARGUED by PERSON x mod how many against PERSON x / 6 mod how many", () -> {
+            for (int seed = 0; seed < 200; seed++) {
+                int x = seed * 2 + 367;
+                if (x % 6 != 1 || x % 4 == x / 6 % 4) continue;
+                LitByLosers town = Due.ruled("loses 0;fills number+1;");
+                for (int i = 0; i < 4; i++) town.person(50, 10);
+                for (int i = 0; i < 7; i++) town.dispute(1 << i);
+                town.years(seed, 1);
+                due("which, seed " + seed, town.is(2), 1 << x / 6 % 7);
+                due("the other one loses, seed " + seed, town.of(x / 6 % 4, 2), 1);
+                due("what it pays, seed " + seed, town.of(x / 6 % 4, 0), 49 - x / 6 % 7);
+                due("no one else, seed " + seed, town.is(3), 199 - x / 6 % 7);
+                LitByLosers one = Due.ruled("loses 0;");
+                for (int i = 0; i < 4; i++) one.person(50, 10);
+                one.dispute(3);
+                one.years(seed, 1);
+                due("of one dispute, seed " + seed, one.book(0, 2), x / 6 % 4);
+            }
+        });
         Due.edge("a NIGHT (if it can pass)", () -> {
             LitByLosers x = always(50, 7);
             pass(x, 9998);
@@ -661,6 +692,18 @@ public final class TermEdgeTests {
             due("the text is gone", x.about(2), 0);
             due("no fault stays", x.fault(0), 0);
             due("no place stays", x.fault(1), -1);
+        });
+        Due.edge("an image of texts that don't rule", () -> {
+            LitByLosers x = always(9, 7);
+            for (int i = 0; i < 4; i++) Due.text(x, "fills " + (i + 3) + ";");
+            x.image();
+            x.by(2);
+            x.back();
+            due("none rules", x.about(3), -1);
+            for (int i = 0; i < 4; i++) {
+                x.by(i);
+                due("fills " + i, x.fills(0, 0), i + 3);
+            }
         });
         Due.edge("an image of thirty steps", () -> {
             for (int more = 0; more < 40; more += 13) {

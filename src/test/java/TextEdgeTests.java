@@ -310,6 +310,15 @@ public final class TextEdgeTests {
             at(3, "loses if not ((((((1))))))=((((((", "(1");
             at(3, "loses if 1=1 then 1 else (((((((", "(1");
         });
+        Due.edge("one behind the other isn't around one another", () -> {
+            whole("loses " + "1*".repeat(12) + "((((((((1))))))));");
+            whole("loses " + "1+".repeat(12) + "((((((((1))))))));");
+            whole("loses " + "1/1-".repeat(12) + "((((((((1))))))));");
+            whole("loses if " + "1=1 or ".repeat(12) + "(((((((1)))))))=1 then 1 else 1 end;");
+            whole("loses if " + "1=1 and ".repeat(12) + "(((((((1)))))))=1 then 1 else 1 end;");
+            at(3, "loses " + "1*".repeat(12) + "((((((((", "(1");
+            at(3, "loses if " + "1=1 or ".repeat(12) + "(((((((", "(1");
+        });
         Due.edge("around till its second is whole", () -> {
             whole("loses around (((((((1))))))) of (((((((1)))))));");
             at(3, "loses around (((((((", "(1");
@@ -345,6 +354,12 @@ public final class TextEdgeTests {
             }
             at(5, "fills who;loses ", "who;");
             at(5, "loses other;fills ", "other;");
+            whole("loses other+other-other+against*other*against/other;");
+            whole("fills who*who*who/who+who+who-who;");
+            whole("loses if other=1 or other=2 or other=3 and against=4 and against=5 then other else against end;");
+            whole("fills if who=1 or who=2 or who=3 and who=4 and who=5 then who else who end;");
+            at(5, "loses other+other+", "who;");
+            at(5, "fills who*who*", "other;");
         });
     }
 
@@ -479,6 +494,57 @@ public final class TextEdgeTests {
             int[] want = {0, 0, 0, 1, 8, 9, 9, 9, 9, 0};
             for (int i = 0; i < sums.length; i++) fills(sums[i], want[i]);
         });
+        Due.edge("its laws wherever they stand", () -> {
+            String[] texts = {"loses 2;fills 3;", "fills 3;loses 2;", "fills 3;snuff 1;loses 2;night 1;", "person 1 slip 1;loses 2;turns 1 by 1;fills 3;",
+                "argue 1 by 2 to 3;fills 1+2;loses 4-1-1;"};
+            for (String text : texts) {
+                LitByLosers x = town(text);
+                due("loses by " + text, x.loses(0, 0, 1), 2);
+                due("fills by " + text, x.fills(0, 1), 3);
+            }
+        });
+        Due.edge("of the first one in loses, of who pays in fills; the other one's SLIP, OIL", () -> {
+            // OIL 11, 22, 33, 44; SLIP 1, 2, 3, 4: each NAME tells whose it is
+            String[] sums = {"slip", "other", "oil/11", "against/11", "number"};
+            for (int i = 0; i < 5; i++) {
+                LitByLosers x = four("loses " + sums[i] + ";");
+                for (int d = 0; d < 8; d++) {
+                    for (int a = 0; a < 4; a++) {
+                        int b = (a + 1 + d % 3) % 4;
+                        int[] want = {a + 1, b + 1, a + 1, b + 1, d};
+                        due(sums[i] + " of " + d + ", " + a + ", " + b, x.loses(d, a, b), want[i]);
+                    }
+                }
+            }
+            String[] others = {"slip", "oil/11", "who", "number", "size"};
+            for (int i = 0; i < 5; i++) {
+                LitByLosers x = four("fills " + others[i] + ";");
+                for (int d = 0; d < 8; d++) {
+                    for (int a = 0; a < 4; a++) {
+                        int[] want = {a + 1, a + 1, a, d, d % 3 + 1};
+                        due(others[i] + " of " + d + ", " + a, x.fills(d, a), want[i]);
+                    }
+                }
+            }
+        });
+        Due.edge("as much when ARGUED", () -> {
+            // the first draw is 7 by 10
+            String[] sums = {"slip*2", "other*2", "oil/11*2", "against/11*2", "number+1"};
+            for (int i = 0; i < 5; i++) {
+                for (int d = 0; d < 8; d++) {
+                    for (int a = 0; a < 4; a++) {
+                        int b = (a + 1 + d % 3) % 4;
+                        int[] odds = {2 * a + 2, 2 * b + 2, 2 * a + 2, 2 * b + 2, d + 1};
+                        LitByLosers x = four("loses " + sums[i] + ";fills who*2+number/4;");
+                        int loser = 7 < odds[i] ? a : b;
+                        due(sums[i] + ", " + d + ": " + a + " against " + b, x.argue(d, a, b), loser);
+                        due("what is paid", x.of(loser, 0), 11 * loser + 11 - loser * 2 - d / 4);
+                        due("wrong", x.of(loser, 2), 1);
+                        due("nobody else pays", x.is(3), 110 - loser * 2 - d / 4);
+                    }
+                }
+            }
+        });
         Due.edge("without: the first one's SLIP", () -> {
             LitByLosers x = town("fills 1;");
             due("slip", x.loses(0, 0, 1), 3);
@@ -520,6 +586,13 @@ public final class TextEdgeTests {
             due("loses", x.loses(0, 0, 1), 3);
             due("fills", x.fills(0, 0), 3);
         });
+    }
+
+    static LitByLosers four(String text) {
+        LitByLosers x = Due.ruled(text);
+        for (int i = 1; i <= 4; i++) x.person(11 * i, i);
+        for (int d = 0; d < 8; d++) x.dispute((2 << d % 3) - 1);
+        return x;
     }
 
     static void lamps() {
@@ -670,6 +743,23 @@ public final class TextEdgeTests {
                 x.undo();
                 due("each a step " + left, x.is(0), left == 0 ? 9998 : left >= 60 ? 9999 - left + 59 : 9998);
             }
+        });
+        Due.edge("the most that can be told by a script", () -> {
+            LitByLosers x = new LitByLosers();
+            Due.text(x, "person 99 slip 10;person 0 slip 0;".repeat(2) + "turns 9 by 9;" + "turns 0 by 0;".repeat(7)
+                + "argue 7 by 3 to 0;pour 99 by 3;snuff 0;pour 99 by 1;night 60;");
+            due("played", x.played(0), -1);
+            due("oil", x.is(3) <= 396 ? 1 : 0, 1);
+            due("night", x.is(0), 60);
+            for (int i = 0; i < 60; i++) x.undo();
+            for (int i = 0; i < 4; i++) due("slip " + i, x.of(i, 1), i % 2 == 0 ? 10 : 0);
+            due("all ten", x.lamps(0), 1023);
+            due("the first", x.lamps(7), 1);
+            LitByLosers y = new LitByLosers();
+            Due.text(y, "person 99 slip 10;person 0 slip 0;person 72 slip 9;person 0 slip 0;pour 99 by 1;pour 73 by 3;");
+            due("played", y.played(0), -1);
+            int[] oil = {99, 99, 72, 73};
+            for (int i = 0; i < 4; i++) due("oil " + i, y.of(i, 0), oil[i]);
         });
         Due.edge("as by hand", () -> {
             LitByLosers x = new LitByLosers();
